@@ -544,6 +544,29 @@ public final class BaggageHandling {
         return isWithin(sort, CHUTE, STATION);
     }
 
+    /** Every outlet but a chute gives its bags back. */
+    private static boolean hasExit(int sort) {
+        return isOutlet(sort) && sort != CHUTE;
+    }
+
+    /** The keyword of a sort of devices. */
+    private static String wordOf(int sort) {
+        switch (sort) {
+            case INLET:
+                return "inlet";
+            case SCANNER:
+                return "scanner";
+            case CHUTE:
+                return "chute";
+            case SCREEN:
+                return "screen";
+            case STORE:
+                return "store";
+            default:
+                return "station";
+        }
+    }
+
     private int sizeAt(int position) {
         return position == NONE ? INVALID : world.queues.sizes[position];
     }
@@ -721,7 +744,7 @@ public final class BaggageHandling {
             if (sort == STATION && !readWorkingTime(position)) {
                 return false;
             }
-            if (isOutlet(sort) && sort != CHUTE && !readExit(position)) {
+            if (hasExit(sort) && !readExit(position)) {
                 return false;
             }
             return tape.takeWord(";");
@@ -832,24 +855,6 @@ public final class BaggageHandling {
             }
             setup.passLimit = tape.takeNamed("passes", 1, 9);
             return setup.passLimit != NONE && tape.takeWord(";");
-        }
-    }
-
-    /** The keyword of a sort of devices. */
-    private static String wordOf(int sort) {
-        switch (sort) {
-            case INLET:
-                return "inlet";
-            case SCANNER:
-                return "scanner";
-            case CHUTE:
-                return "chute";
-            case SCREEN:
-                return "screen";
-            case STORE:
-                return "store";
-            default:
-                return "station";
         }
     }
 
@@ -1033,7 +1038,7 @@ public final class BaggageHandling {
             if (sort == STATION) {
                 text.addNamed("time", times[1][position]);
             }
-            if (isOutlet(sort) && sort != CHUTE) {
+            if (hasExit(sort)) {
                 text.addNamed("exit", exits[position]);
             }
             text.endClause();

@@ -70,6 +70,7 @@ public final class ForecastTest {
         CHECK.due("ticks 0", x.forecastDelivered(0), I);
         CHECK.due("ticks -1", x.forecastDelivered(-1), I);
         CHECK.due("ticks 301", x.forecastDelivered(301), I);
+        CHECK.due("ticks 1", x.forecastDelivered(1), 0);
         CHECK.due("ticks 6", x.forecastDelivered(6), 0);
         CHECK.due("ticks 7", x.forecastDelivered(7), 1);
         CHECK.due("ticks 16", x.forecastDelivered(16), 1);
@@ -86,6 +87,7 @@ public final class ForecastTest {
         CHECK.due("flight 3", x.bestInlet(3, 10), I);
         CHECK.due("limit 0", x.bestInlet(0, 0), I);
         CHECK.due("limit 301", x.bestInlet(0, 301), I);
+        CHECK.due("limit 1", x.bestInlet(0, 1), N);
         CHECK.due("limit 14", x.bestInlet(0, 14), N);
         CHECK.due("limit 15", x.bestInlet(0, 15), 0);
         CHECK.due("the chute of flight 9 is farther, limit 16", x.bestInlet(2, 16), N);

@@ -114,6 +114,9 @@ public final class OperationsTest {
         CHECK.due("bagPlace(1)", x.bagPlace(1), 4);
         CHECK.due("slip without a record", x.slip(4), true);
         CHECK.due("map", Check.mapOf(x), "...x.ao.....\n");
+        CHECK.due("slip to bag 1", x.slip(5), true);
+        CHECK.due("it is behind now", x.slip(4), false);
+        x.undo();
         CHECK.due("they move on", x.run(1), 0);
         CHECK.due("map", Check.mapOf(x), "....x.ao....\n");
     }
@@ -128,6 +131,17 @@ public final class OperationsTest {
         CHECK.due("bagPlace(0)", x.bagPlace(0), 11);
         x.run(1);
         CHECK.due("map", Check.mapOf(x), "xo..........\n");
+
+        BaggageHandling y = Check.loaded("ring 12;inlet 0;");
+        y.checkIn(0, 1000, 15, 0, 0, 0);
+        y.run(11);
+        y.checkIn(0, 1000, 15, 0, 0, 0);
+        y.run(1);
+        CHECK.due("map", Check.mapOf(y), "a..........a\n");
+        CHECK.due("slip(0) with bag 0 behind", y.slip(0), false);
+        CHECK.due("takeOff(11)", y.takeOff(11), 0);
+        CHECK.due("slip(0)", y.slip(0), true);
+        CHECK.due("it has the record of bag 0", Check.mapOf(y), "o..........a\n");
     }
 
     private static void takingOff() {
@@ -155,6 +169,8 @@ public final class OperationsTest {
         BaggageHandling x = Check.loaded(Check.PLANT);
         CHECK.due("setHead(-1)", x.setHead(-1, false), false);
         CHECK.due("setHead(4)", x.setHead(4, false), false);
+        CHECK.due("setHead(4)", x.setHead(4, true), false);
+        CHECK.due("setHead(5)", x.setHead(5, true), false);
         CHECK.due("setHead(32)", x.setHead(32, false), false);
         CHECK.due("works already", x.setHead(3, true), false);
         CHECK.due("setHead(3, false)", x.setHead(3, false), true);

@@ -93,6 +93,28 @@ public final class SetupTest {
         CHECK.due("the diverters are new", x.readyAt(13), 0);
         CHECK.due("the new bag is bag 0", x.checkIn(0, 7001, 15, 0, 0, 0), 0);
         CHECK.due("run", x.run(15), 1);
+        loadingAgain();
+    }
+
+    /** What a longer ring and another setup left behind must not be seen in a shorter ring. */
+    private static void loadingAgain() {
+        BaggageHandling x = Check.loaded("ring 60;inlet 59;inlet 58;");
+        x.checkIn(0, 7001, 15, 0, 0, 0);
+        x.run(59);
+        String plain = "ring 10;inlet 9;window 1;passes 3;";
+        Check.put(x, plain);
+        x.load();
+        CHECK.due("bagAt(0)", x.bagAt(0), N);
+        x.checkIn(0, 7001, 15, 0, 0, 0);
+        x.run(2);
+        CHECK.due("map", Check.mapOf(x), "a.........\n");
+        for (String text : new String[] {Check.PLANT, plain, Check.PLANT}) {
+            Check.put(x, text);
+            x.load();
+            CHECK.due("setup", Check.setupOf(x), text);
+        }
+        x.checkIn(0, 7001, 15, 0, 0, 0);
+        CHECK.due("run", x.run(15), 1);
     }
 
     private static void failedLoading() {
@@ -137,6 +159,13 @@ public final class SetupTest {
         text("^rin 10;");
         text("^rings 10;");
         text("^ringring 10;");
+        text("^ringz 10;");
+        text("^ringa 10;");
+        text("^zring 10;");
+        text("ring^`10;");
+        text("ring^{10;");
+        text("ring ^/10;");
+        text("ring 10^:");
         text("^Ring 10;");
         text("ring^");
         text("ring  ^");

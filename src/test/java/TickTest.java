@@ -245,6 +245,17 @@ public final class TickTest {
         x.run(2);
         CHECK.due("the same label is no conflict", x.count(2), 1);
 
+        BaggageHandling edges = Check.loaded(setup);
+        edges.checkIn(0, 1000, 1, 999999, 2, 0);
+        edges.setHead(1, false);
+        edges.run(2);
+        CHECK.due("the smallest label", edges.recordLabel(1), 1000);
+        edges.setHead(1, true);
+        edges.setHead(0, false);
+        edges.run(2);
+        CHECK.due("the greatest label", edges.recordLabel(3), 999999);
+        CHECK.due("a conflict", edges.count(2), 1);
+
         BaggageHandling y = Check.loaded(setup);
         y.checkIn(0, 7001, 1, 8001, 2, 0);
         y.run(2);
