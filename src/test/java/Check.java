@@ -1,3 +1,6 @@
+import java.util.ArrayList;
+import java.util.List;
+
 /** What the tests share: a count of wrong answers, and ways to load a setup and to read texts back. */
 final class Check {
     /**
@@ -10,35 +13,68 @@ final class Check {
         + "flight 7 chute 0 open 0 close 500;flight 8 chute 1 open 50 close 300;"
         + "flight 9 chute 1 open 0 close 100;window 1;passes 3;";
 
+    /** A sentence of the document, or a clause of one, and how many checks are about it. */
+    static final class Quote {
+        final String where;
+        final String words;
+        int checks;
+
+        Quote(String where, String words) {
+            this.where = where;
+            this.words = words;
+        }
+    }
+
+    final List<Quote> quotes = new ArrayList<>();
     private int wrong = 0;
-    private int promise = 0;
+    private String subject = "";
 
     /** The checks that follow are about this promise. */
     void promise(int number) {
-        promise = number;
+        subject = "promise " + number;
+    }
+
+    /** The checks that follow are about these words, which stand in a section or promise of the document. */
+    void says(String where, String words) {
+        quotes.add(new Quote(where, words));
+        subject = where + ", \"" + words + "\"";
     }
 
     void due(String what, long got, long want) {
-        if (got != want) {
-            tell(what, String.valueOf(got), String.valueOf(want));
-        }
+        due(what, String.valueOf(got), String.valueOf(want));
     }
 
     void due(String what, boolean got, boolean want) {
-        if (got != want) {
-            tell(what, String.valueOf(got), String.valueOf(want));
-        }
+        due(what, String.valueOf(got), String.valueOf(want));
     }
 
     void due(String what, String got, String want) {
+        if (!quotes.isEmpty()) {
+            quotes.get(quotes.size() - 1).checks++;
+        }
         if (!got.equals(want)) {
-            tell(what, got, want);
+            tell(what + " answered " + got + ", due is " + want);
         }
     }
 
-    private void tell(String what, String got, String want) {
+    /** Loads a text with its error marked by '^', or, without one, a good text, and checks the answers. */
+    void text(String marked) {
+        int error = marked.indexOf('^');
+        BaggageHandling x = new BaggageHandling();
+        put(x, marked.replace("^", ""));
+        int answer = x.load();
+        due("errorPosition() of " + marked, x.errorPosition(), error < 0 ? BaggageHandling.NOT_FOUND : error);
+        due("load() of " + marked, answer >= 0, error < 0);
+    }
+
+    void tell(String fault) {
         wrong++;
-        System.out.println("promise " + promise + ": " + what + " answered " + got + ", due is " + want);
+        System.out.println(subject + ": " + fault);
+    }
+
+    void tell(Quote quote, String fault) {
+        wrong++;
+        System.out.println(quote.where + ", \"" + quote.words + "\": " + fault);
     }
 
     void end() {

@@ -140,15 +140,8 @@ public final class SetupTest {
         CHECK.due("errorPosition() without a load", new BaggageHandling().errorPosition(), N);
     }
 
-    /** A text with its error marked by '^' (or, without one, a good text). */
     private static void text(String marked) {
-        int want = marked.indexOf('^');
-        String text = marked.replace("^", "");
-        BaggageHandling x = new BaggageHandling();
-        Check.put(x, text);
-        int answer = x.load();
-        CHECK.due("errorPosition() of " + marked, x.errorPosition(), want < 0 ? N : want);
-        CHECK.due("load() of " + marked, answer >= 0, want < 0);
+        CHECK.text(marked);
     }
 
     private static void syntaxErrors() {
