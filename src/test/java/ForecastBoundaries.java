@@ -349,7 +349,8 @@ final class ForecastBoundaries {
     // ---- promise 47
 
     private void latestDelays() {
-        c.says("Promise 47", "Returns how many ticks later a bag at the latest may be checked in at an inlet so that it still comes into the chute of a flight"
+        c.says("Promise 47", "Returns how many ticks later a bag at the latest may be checked in at an inlet so that it"
+            + " still comes into the chute of a flight"
             + " before this flight closes:");
         // A bag of flight 9 takes 17 ticks, and the flight closes at tick 100: it must be checked in at tick 82.
         BaggageHandling x = Check.loaded(Check.PLANT);
@@ -357,7 +358,8 @@ final class ForecastBoundaries {
             Scene.runTo(x, tick);
             c.due("at tick " + tick, x.latestDelay(2, 0), tick > 82 ? N : Math.min(30, 82 - tick));
         }
-        c.says("Promise 47", "the greatest delay from 0 to 30 with which the additional bag (as for bestInlet(), checked in after running so many ticks)"
+        c.says("Promise 47", "the greatest delay from 0 to 30 with which the additional bag (as for bestInlet(), checked in after"
+            + " running so many ticks)"
             + " comes into this chute, within 300 ticks after it is checked in and in a tick less than the closing tick.");
         BaggageHandling y = Check.loaded(Check.PLANT);
         c.due("at most 30", y.latestDelay(2, 0), 30);
@@ -379,7 +381,8 @@ final class ForecastBoundaries {
     }
 
     private void thisChute() {
-        c.says("Promise 47", "the greatest delay from 0 to 30 with which the additional bag (as for bestInlet(), checked in after running so many ticks)"
+        c.says("Promise 47", "the greatest delay from 0 to 30 with which the additional bag (as for bestInlet(), checked in after"
+            + " running so many ticks)"
             + " comes into this chute,");
         BaggageHandling x = Check.loaded("ring 10;inlet 8;scanner 9;screen 0 room 5 switch 1 times 1 1 1 exit 1;chute 4 room 1 switch 1;"
             + "chute 6 room 9 switch 1;flight 7 chute 0 open 0 close 90;flight 8 chute 1 open 0 close 90;");
@@ -455,7 +458,8 @@ final class ForecastBoundaries {
         c.due("delay 0 is one", x.latestDelay(2, 0), 0);
         x.run(1);
         c.due("none", x.latestDelay(2, 0), N);
-        BaggageHandling noScanner = Check.loaded("ring 10;inlet 0;screen 2 room 1 switch 1 times 1 1 1 exit 3;chute 5 room 1 switch 1;flight 7 chute 0 open 0 close 99;");
+        BaggageHandling noScanner = Check.loaded("ring 10;inlet 0;screen 2 room 1 switch 1 times 1 1 1 exit 3;chute 5 room 1 switch 1;"
+            + "flight 7 chute 0 open 0 close 99;");
         c.due("no scanner", noScanner.latestDelay(0, 0), N);
     }
 }

@@ -1,6 +1,5 @@
 /** The boundary cases of section 5 that are about inlets, exits and outlets, and those of sections 6 to 9. */
 final class OutletBoundaries {
-    private static final int I = Scene.I;
     private static final int N = Scene.N;
     private final Check c;
 
@@ -25,6 +24,7 @@ final class OutletBoundaries {
         b.bagIsInTheOutlet();
         b.emptyDivertings();
         b.bagsWithoutRecords();
+        b.firstInFirstOut();
         b.stationQueue();
         b.stationExit();
         b.stationCounter();
@@ -146,7 +146,8 @@ final class OutletBoundaries {
 
     /** Bags of flight 7 come one after another to an outlet: a chute, a screen, a store or a station at position 5. */
     private static final String[] LINES = {
-        "ring 40;inlet 0;scanner 1;screen 2 room 20 switch 1 times 1 1 1 exit 3;chute 5 room ROOM switch SWITCH;flight 7 chute 0 open 0 close 999;",
+        "ring 40;inlet 0;scanner 1;screen 2 room 20 switch 1 times 1 1 1 exit 3;chute 5 room ROOM switch SWITCH;"
+            + "flight 7 chute 0 open 0 close 999;",
         "ring 40;inlet 0;scanner 1;screen 5 room ROOM switch SWITCH times 99 99 99 exit 39;",
         "ring 40;inlet 0;scanner 1;screen 2 room 20 switch 1 times 1 1 1 exit 3;store 5 room ROOM switch SWITCH exit 39;"
             + "chute 38 room 1 switch 1;flight 7 chute 0 open 998 close 999;",
@@ -181,7 +182,8 @@ final class OutletBoundaries {
         y.run(9);
         c.due("both stations", y.stationSize(0) * 10 + y.stationSize(1), 11);
         BaggageHandling z = Scene.withBags("ring 20;inlet 0;scanner 1;screen 2 room 9 switch 1 times 1 1 1 exit 3;"
-            + "store 5 room 1 switch 1 exit 12;store 6 room 1 switch 1 exit 13;chute 19 room 1 switch 1;flight 7 chute 0 open 98 close 99;", 3, 7001);
+            + "store 5 room 1 switch 1 exit 12;store 6 room 1 switch 1 exit 13;chute 19 room 1 switch 1;flight 7 chute 0 open 98 close"
+            + " 99;", 3, 7001);
         z.run(12);
         c.due("both stores", z.storeSize(0) * 10 + z.storeSize(1), 11);
     }
@@ -238,7 +240,8 @@ final class OutletBoundaries {
     }
 
     private void switchingOutlets() {
-        c.says("Section 5", "after taking something in tick t, a diverter with the switching time s can take again in tick t + s at the earliest.");
+        c.says("Section 5", "after taking something in tick t, a diverter with the switching time s can take again in tick t +"
+            + " s at the earliest.");
         for (int outlet = 0; outlet < 4; outlet++) {
             for (int switching : new int[] {1, 2, 9}) {
                 BaggageHandling x = line(outlet, 20, switching, switching + 1);
@@ -309,7 +312,8 @@ final class OutletBoundaries {
     }
 
     private void emptyDivertings() {
-        c.says("Section 5", "If there is none, the empty count increases by 1, and the record is deleted (this counts as taking for the switching time).");
+        c.says("Section 5", "If there is none, the empty count increases by 1, and the record is deleted (this counts as taking for"
+            + " the switching time).");
         for (int outlet = 0; outlet < 4; outlet++) {
             BaggageHandling x = line(outlet, 2, 3, 4);
             x.run(5);
@@ -341,6 +345,36 @@ final class OutletBoundaries {
             c.due(NAMES[outlet] + ": that is no miss", x.count(3), 0);
             c.due(NAMES[outlet] + ": readyAt(5) is that of its record", x.readyAt(5), 7);
         }
+    }
+
+    /** Bag 0 comes second into a queue, and bag 2 when the one before it has left and it is still there. */
+    private void firstInFirstOut() {
+        String setup = "ring 40;inlet 30;inlet 0;scanner 1;DEVICE;chute 39 room 9 switch 1;flight 7 chute 0 open 0 close 999;"
+            + "flight 8 chute 0 open 60 close 999;flight 9 chute 0 open 80 close 999;";
+        c.says("Section 6", "In step (b) a station that has bags in its queue works on the first one:");
+        leaves(Check.loaded(setup.replace("DEVICE", "station 5 room 9 switch 1 time 9 exit 9")), 7001, 7001, 0, 19);
+        c.says("Section 7", "In step (b) a screen that has bags in its queue works on the first one,");
+        leaves(Check.loaded(setup.replace("DEVICE", "screen 5 room 9 switch 1 times 9 9 9 exit 9")), 7001, 7001, 15, 19);
+        c.says("Section 8", "among several the one that came into the store first.");
+        leaves(Check.loaded(setup.replace("DEVICE", "screen 2 room 9 switch 1 times 1 1 1 exit 3;store 5 room 9 switch 1 exit"
+            + " 9")), 9001, 8001, 15, 58);
+    }
+
+    private void leaves(BaggageHandling x, int label, int labelOfTheFirst, int heads, int tickOfTheLast) {
+        // From inlet 0 the way is ten ticks longer.
+        x.checkIn(0, label, heads, 0, 0, 0);
+        x.run(9);
+        x.checkIn(1, labelOfTheFirst, heads, 0, 0, 0);
+        Scene.runTo(x, tickOfTheLast);
+        x.checkIn(1, label, heads, 0, 0, 0);
+        StringBuilder order = new StringBuilder();
+        while (x.tick() < 100 && order.length() < 3) {
+            x.run(1);
+            if (x.bagAt(9) >= 0) {
+                order.append(x.bagAt(9));
+            }
+        }
+        c.due("the order in which they come to the exit", order.toString(), "102");
     }
 
     // ---- section 6
@@ -409,7 +443,8 @@ final class OutletBoundaries {
     }
 
     private void stationLabels() {
-        c.says("Section 6", "If it has a proper label, the label of the record becomes that one, the passes become 0, and the bag waits at the exit with this record.");
+        c.says("Section 6", "If it has a proper label, the label of the record becomes that one, the passes become 0, and the"
+            + " bag waits at the exit with this record.");
         String setup = "ring 20;inlet 0;scanner 1;station 5 room 3 switch 1 time 2 exit 9;chute 19 room 1 switch 1;"
             + "flight 7 chute 0 open 0 close CLOSE;flight 8 chute 0 open 50 close 60;";
         int[] closings = {9, 8, 7};
@@ -461,7 +496,8 @@ final class OutletBoundaries {
     // ---- section 7
 
     private void screenQueue() {
-        c.says("Section 7", "A screen has a queue of bags (with their records), at most its capacity, times t1, t2 and t3 for the levels 1 to 3,");
+        c.says("Section 7", "A screen has a queue of bags (with their records), at most its capacity, times t1, t2 and t3 for the"
+            + " levels 1 to 3,");
         c.text("ring 10;screen 1 room ^0 switch 1 times 1 1 1 exit 2;");
         c.text("ring 10;screen 1 room ^21 switch 1 times 1 1 1 exit 2;");
         BaggageHandling x = line(1, 20, 1, 22);
@@ -517,7 +553,8 @@ final class OutletBoundaries {
             int last = 6;
             for (int threat = 0; threat < 3; threat++) {
                 last += t[threat];
-                BaggageHandling x = Check.loaded("ring 40;inlet 0;scanner 1;screen 5 room 3 switch 1 times " + t[0] + " " + t[1] + " " + t[2] + " exit 9;");
+                BaggageHandling x = Check.loaded("ring 40;inlet 0;scanner 1;screen 5 room 3 switch 1 times"
+                    + " " + t[0] + " " + t[1] + " " + t[2] + " exit 9;");
                 x.checkIn(0, 7001, 15, 0, 0, threat);
                 Scene.runTo(x, last - 1);
                 c.due("threat " + threat + " is screened at level", x.screenLevel(0), threat + 1);
@@ -585,7 +622,8 @@ final class OutletBoundaries {
     private void storeExit() {
         c.says("Section 8", "and has an exit, where any number of bags may wait.");
         BaggageHandling x = Check.loaded("ring 60;inlet 0;inlet 8;scanner 1;screen 2 room 20 switch 1 times 1 1 1 exit 3;"
-            + "store 5 room 20 switch 1 exit 9;chute 59 room 20 switch 1;flight 7 chute 0 open 50 close 999;flight 8 chute 0 open 70 close 999;");
+            + "store 5 room 20 switch 1 exit 9;chute 59 room 20 switch 1;flight 7 chute 0 open 50 close 999;"
+            + "flight 8 chute 0 open 70 close 999;");
         Scene.bags(x, 20, 7001);
         x.run(47);
         c.due("20 bags in the store", x.storeSize(0), 20);
@@ -644,7 +682,8 @@ final class OutletBoundaries {
     }
 
     private void storeReleasesTheFirstToClose() {
-        c.says("Section 8", "In step (b) a store releases at most one bag: of the bags in it whose records' labels belong to flights that are not early,"
+        c.says("Section 8", "In step (b) a store releases at most one bag: of the bags in it whose records' labels belong to"
+            + " flights that are not early,"
             + " the one whose flight has the smallest closing tick, among several the one that came into the store first.");
         BaggageHandling x = Check.loaded(STORE + "flight 4 chute 0 open 30 close 100;flight 5 chute 0 open 30 close 99;"
             + "flight 6 chute 0 open 29 close 99;flight 7 chute 0 open 33 close 98;");

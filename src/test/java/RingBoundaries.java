@@ -222,7 +222,8 @@ final class RingBoundaries {
     }
 
     private void flightStates() {
-        c.says("Section 2", "A flight is early before its opening tick, closed from its closing tick on, and open between (opening tick included).");
+        c.says("Section 2", "A flight is early before its opening tick, closed from its closing tick on, and open between (opening"
+            + " tick included).");
         BaggageHandling x = Check.loaded("ring 10;chute 1 room 1 switch 1;flight 1 chute 0 open 5 close 8;"
             + "flight 2 chute 0 open 0 close 1;flight 3 chute 0 open 7 close 8;");
         int[][] states = {{0, 0, 0, 0, 0, 1, 1, 1, 2, 2}, {1, 2, 2, 2, 2, 2, 2, 2, 2, 2}, {0, 0, 0, 0, 0, 0, 0, 1, 2, 2}};
@@ -244,6 +245,9 @@ final class RingBoundaries {
         c.due("flights()", x.flights(), 10);
         c.due("flightNumber(9)", x.flightNumber(9), 10);
         c.due("flightNumber(10)", x.flightNumber(10), I);
+        BaggageHandling y = Check.loaded(s.toString().replace("ring 10;", "ring 10;inlet 0;"));
+        c.due("a label of the tenth flight", y.properLabel(Scene.bag(y, 10001)), 10001);
+        c.due("a label of no flight", y.properLabel(Scene.bag(y, 11001)), N);
         c.text(s + "^flight 11 chute 0 open 0 close 9;");
     }
 
@@ -251,7 +255,8 @@ final class RingBoundaries {
         + "flight 7 chute 0 open 5 close 10;flight 8 chute 0 open 15 close 20;";
 
     private void firstLabelIsProper() {
-        c.says("Section 2", "The proper label of a bag at some tick is its first label if that belongs to a flight of the setup that is not closed;");
+        c.says("Section 2", "The proper label of a bag at some tick is its first label if that belongs to a flight of the"
+            + " setup that is not closed;");
         BaggageHandling x = Check.loaded(TWO_FLIGHTS);
         x.checkIn(0, 7001, 0, 8001, 15, 0);
         c.due("early, and no head sees it", x.properLabel(0), 7001);
@@ -316,7 +321,8 @@ final class RingBoundaries {
     }
 
     private void noDestination() {
-        c.says("Section 3", "The destination of a record at the present tick is the first that applies: none, if it has no passes and its label is 0;");
+        c.says("Section 3", "The destination of a record at the present tick is the first that applies: none, if it has no passes"
+            + " and its label is 0;");
         BaggageHandling x = Check.loaded("ring 12;inlet 0;scanner 1;station 3 room 3 switch 1 time 1 exit 6;"
             + "chute 10 room 1 switch 1;flight 7 chute 0 open 0 close 99;");
         x.checkIn(0, 7001, 0, 0, 0, 0);
@@ -432,7 +438,8 @@ final class RingBoundaries {
     }
 
     private void devicesWorkFirst() {
-        c.says("Section 4", "(b) The stations, then the screens, then the stores work, each sort in ascending order, as described in sections 6 to 8.");
+        c.says("Section 4", "(b) The stations, then the screens, then the stores work, each sort in ascending order, as described"
+            + " in sections 6 to 8.");
         BaggageHandling x = Scene.withBags("ring 10;inlet 0;scanner 1;screen 2 room 1 switch 1 times 1 1 1 exit 3;", 2, 7001);
         x.run(3);
         c.due("the first bag came in and is not worked on in the same tick", x.screenSize(0) * 10 + x.bagState(0), 14);
@@ -504,7 +511,8 @@ final class RingBoundaries {
     /** What a scanner moves or takes behind is seen by the device there in the next tick only. */
     private void positionsBehind() {
         c.says("Section 4", "(c) The positions are treated in ascending order.");
-        BaggageHandling x = Scene.withBags("ring 20;inlet 0;scanner 1;screen 5 room 9 switch 2 times 9 9 9 exit 15;scanner 6;window 1;", 2, 7001);
+        BaggageHandling x = Scene.withBags("ring 20;inlet 0;scanner 1;screen 5 room 9 switch 2 times 9 9 9 exit 15;scanner 6;"
+            + "window 1;", 2, 7001);
         x.run(6);
         x.slip(4);
         x.run(1);

@@ -90,6 +90,7 @@ final class ScannerBoundaries {
         c.due(what + "losses", x.count(0), found ? 0 : 1);
         c.due(what + "the record is gone from its place", x.recordLabel(there) == N, found);
         c.due(what + "the bag is read", x.recordLabel(scanner), 7001);
+        c.due(what + "passes", x.passes(scanner), found && place == 1 ? 2 : 1);
         c.due(what + "ghosts", x.count(1), 0);
     }
 
@@ -163,7 +164,8 @@ final class ScannerBoundaries {
     }
 
     private void recordIsMade() {
-        c.says("Section 5", "If none is found, a new record (label 0, not cleared, no passes) is made there, and the loss count increases by 1.");
+        c.says("Section 5", "If none is found, a new record (label 0, not cleared, no passes) is made there, and the loss"
+            + " count increases by 1.");
         BaggageHandling x = Check.loaded("ring 20;inlet 0;scanner 1;screen 2 room 1 switch 1 times 1 1 1 exit 3;scanner 10;window 0;");
         x.checkIn(0, 7001, 1, 0, 0, 0);
         x.run(10);
@@ -176,6 +178,23 @@ final class ScannerBoundaries {
         c.due("no passes but the one of this tick", x.passes(10), 1);
         c.due("a loss", x.count(0), 1);
         c.due("the old record was a ghost", x.count(1), 1);
+        newRecordInAnOldPlace();
+    }
+
+    /** The bag alone is where a cleared record has left the ring with its bag: the new record has nothing of that one. */
+    private void newRecordInAnOldPlace() {
+        BaggageHandling x = Check.loaded("ring 20;inlet 0;scanner 1;screen 2 room 9 switch 1 times 1 1 1 exit 3;chute 8 room 9 switch 1;"
+            + "scanner 12;"
+            + "flight 7 chute 0 open 0 close 99;window 0;");
+        Scene.bag(x, 0);
+        Scene.bag(x, 7001);
+        x.run(10);
+        c.due("the second bag is in the chute, the first one is ahead of it", x.bagState(1) * 10 + x.bagPlace(0), 29);
+        x.slip(9);
+        x.run(4);
+        c.due("label 0", x.recordLabel(12), 0);
+        c.due("not cleared", x.isCleared(12), false);
+        c.due("no passes but the one of this tick", x.passes(12), 1);
     }
 
     private void searchForABag() {
@@ -347,7 +366,8 @@ final class ScannerBoundaries {
     }
 
     private void oneCodeOfAFlight() {
-        c.says("Section 5", "If it has two different codes, the result is the one that belongs to a flight of the setup, if exactly one of them does;");
+        c.says("Section 5", "If it has two different codes, the result is the one that belongs to a flight of the setup, if"
+            + " exactly one of them does;");
         c.due("the first one, of a closed flight", read(7001, 1, 9001, 2), 7001);
         c.due("the second one, of a closed flight", read(9001, 1, 7001, 2), 7001);
         c.due("the first one, of an early flight", read(8999, 1, 9000, 2), 8999);
@@ -415,6 +435,14 @@ final class ScannerBoundaries {
         next(z, true, true);
         next(z, false, false);
         c.due("an ambiguous result and an empty set: no conflict", z.count(2), 0);
+        BaggageHandling edges = Check.loaded(FLIGHTS);
+        edges.checkIn(0, 1000, 1, 999999, 2, 0);
+        edges.setHead(1, false);
+        edges.run(2);
+        next(edges, false, true);
+        c.due("from the least label to the greatest: a conflict", edges.count(2), 1);
+        next(edges, true, false);
+        c.due("and back: another one", edges.count(2), 2);
     }
 
     private void ambiguousResult() {

@@ -24,6 +24,8 @@ final class SetupCallBoundaries {
         b.loading();
         b.emptyTape();
         b.loadSucceeds();
+        b.nothingOfTheFormerSetupIsLeft();
+        b.nothingOfAnErrorIsLeft();
         b.loadFails();
         b.loadAnswers();
         b.errorPositions();
@@ -227,15 +229,94 @@ final class SetupCallBoundaries {
         }
         c.due("undo()", x.undo(), I);
         Scene.dueSame(c, "as a new object with that setup", x, Check.loaded(other));
-        BaggageHandling y = Scene.busy();
-        BaggageHandling fresh = new BaggageHandling();
-        String same = Check.setupOf(y);
-        y.truncate(8);
-        Check.put(y, same);
+    }
+
+    /** Bags are checked in and run in the same way, so that everything a setup or its bags left behind would be seen. */
+    private void dueSameRun(String what, BaggageHandling x, BaggageHandling y) {
+        c.due(what, Scene.everything(x), Scene.everything(y));
+        for (int i = 0; i < 30; i++) {
+            for (BaggageHandling each : new BaggageHandling[] {x, y}) {
+                each.checkIn(i % 2, i % 3 == 0 ? 0 : 7001 + i, 15, i % 5 == 0 ? 8001 : 0, 15, i % 4);
+                each.run(3);
+                each.slip(i);
+            }
+            c.due(what + ", tick " + x.tick(), Scene.everything(x), Scene.everything(y));
+        }
+    }
+
+    private void nothingOfTheFormerSetupIsLeft() {
+        c.says("Promise 4", "On success the setup is replaced, it is tick 0, there are no bags and records,");
+        String same = Check.setupOf(Scene.busy());
+        BaggageHandling busy = Scene.busy();
+        busy.truncate(8);
+        Check.put(busy, same);
+        busy.load();
+        dueSameRun("the same setup once more", busy, Check.loaded(same));
+        // A load in the middle of the work of a station and of a screen: they begin anew.
+        for (int ticks = 5; ticks <= 16; ticks++) {
+            BaggageHandling x = Check.loaded(Check.PLANT);
+            x.checkIn(0, 7001, 15, 0, 0, 3);
+            x.checkIn(0, 7001, 0, 0, 0, 0);
+            x.run(ticks);
+            Check.put(x, Check.PLANT);
+            x.load();
+            dueSameRun("the plant once more after " + ticks + " ticks", x, Check.loaded(Check.PLANT));
+        }
+        String longer = "ring 60;inlet 59;inlet 58;scanner 50;chute 40 room 20 switch 9;screen 30 room 2 switch 9 times 9 9 9 exit 20;"
+            + "flight 7 chute 0 open 0 close 99;flight 8 chute 0 open 0 close 99;window 3;passes 9;";
+        String shorter = "ring 10;inlet 9;inlet 4;scanner 0;screen 2 room 1 switch 1 times 1 1 1 exit 3;";
+        for (int ticks = 1; ticks <= 60; ticks++) {
+            BaggageHandling x = Check.loaded(longer);
+            Scene.bags(x, 3, 7001);
+            x.run(ticks);
+            Check.put(x, shorter);
+            x.load();
+            c.due("deviceAt(59)", x.deviceAt(59), I);
+            c.due("map", Scene.map(x), "..........");
+            if (ticks > 57) {
+                dueSameRun("a shorter ring after " + ticks + " ticks of a longer one", x, Check.loaded(shorter));
+            }
+        }
+        BaggageHandling y = Check.loaded(longer);
+        Check.put(y, "ring 10;inlet 0;chute 1 room 1 switch 1;flight 9 chute 0 open 0 close 99;");
         y.load();
-        Check.put(fresh, same);
-        fresh.load();
-        Scene.dueSame(c, "the same setup once more", y, fresh);
+        c.due("flights()", y.flights(), 1);
+        c.due("a label of a flight that is gone", y.properLabel(Scene.bag(y, 8001)), N);
+        c.due("a label of the new flight", y.properLabel(Scene.bag(y, 9001)), 9001);
+        for (String text : new String[] {longer, shorter + "window 1;passes 3;", longer, longer, shorter + "window 0;passes 1;"}) {
+            Check.put(y, text);
+            y.load();
+            c.due("one setup after another", Check.setupOf(y), text);
+        }
+    }
+
+    private void nothingOfAnErrorIsLeft() {
+        c.says("Promise 4", "On an error everything but the tape and the error position stays.");
+        StringBuilder s = new StringBuilder("ring 60;inlet 0;inlet 1;inlet 2;scanner 3;scanner 4;scanner 5;");
+        for (int p = 6; p < 12; p++) {
+            s.append("chute " + p + " room 1 switch 1;");
+        }
+        for (int p = 12; p < 24; p += 6) {
+            s.append("screen " + p + " room 1 switch 1 times 1 1 1 exit " + (p + 1) + ";store " + (p + 2) + " room 1 switch 1 exit " + (p + 3)
+                + ";station " + (p + 4) + " room 1 switch 1 time 1 exit " + (p + 5) + ";");
+        }
+        for (int i = 1; i <= 10; i++) {
+            s.append("flight " + i + " chute 5 open 0 close 1;");
+        }
+        BaggageHandling x = new BaggageHandling();
+        for (int i = 0; i < 3; i++) {
+            Check.put(x, s + "window 0;passes 1;x");
+            c.due("an error at the end", x.load(), I);
+            c.due("errorPosition()", x.errorPosition(), s.length() + 18);
+        }
+        Check.put(x, s + "window 0;passes 1;");
+        c.due("the same text without the error", x.load(), 60);
+        c.due("setup", Check.setupOf(x), s + "window 0;passes 1;");
+        Check.put(x, s + "window 0;passes 1;x");
+        x.load();
+        Check.put(x, "ring 10;");
+        x.load();
+        c.due("a short text", Check.setupOf(x), "ring 10;window 1;passes 3;");
     }
 
     private void loadFails() {
@@ -420,7 +501,8 @@ final class SetupCallBoundaries {
     }
 
     private void mapBytes() {
-        c.says("Promise 48", "It has one byte for each position: a letter for a bag with a record (a for a bag that is not read, b for an ambiguous label,"
+        c.says("Promise 48", "It has one byte for each position: a letter for a bag with a record (a for a bag that is not read,"
+            + " b for an ambiguous label,"
             + " c for a label that is not cleared, d for a cleared one), an x for a bag without a record, an o for a record without a bag,"
             + " and a point for an empty position.");
         BaggageHandling x = Check.loaded("ring 14;inlet 0;scanner 2;screen 4 room 2 switch 1 times 1 1 1 exit 5;");
@@ -481,12 +563,19 @@ final class SetupCallBoundaries {
             + " the window and the passes.");
         String mixed = "ring 30;scanner 29;store 1 room 3 switch 4 exit 0;inlet 2;station 5 room 20 switch 9 time 99 exit 4;scanner 3;"
             + "chute 12 room 1 switch 1;inlet 11;screen 20 room 5 switch 5 times 9 10 99 exit 10;chute 9 room 10 switch 2;"
-            + "flight 999 chute 1 open 10 close 100;flight 1 chute 0 open 0 close 99999;flight 500 chute 1 open 99998 close 99999;window 0;passes 9;";
+            + "flight 999 chute 1 open 10 close 100;flight 1 chute 0 open 0 close 99999;flight 500 chute 1 open 99998 close 99999;"
+            + "window 0;passes 9;";
         c.due("mixed", Check.setupOf(Check.loaded(mixed)), mixed);
         c.due("the passes alone", Check.setupOf(Check.loaded("ring 10;inlet 0;passes 1;")), "ring 10;inlet 0;window 1;passes 1;");
-        c.says("Promise 50", "Tokens are separated by one space, but there is no space before a semicolon, and nothing between a semicolon and the next token.");
-        c.due("other white space, leading zeros", Check.setupOf(Check.loaded("ring0030 ;\n\n scanner 029\n;station 5room 020switch 9 time 00099 exit 00000 ; window 0;")),
+        c.says("Promise 50", "Tokens are separated by one space, but there is no space before a semicolon, and nothing between"
+            + " a semicolon and the next token.");
+        c.due("other white space, leading zeros", Check.setupOf(Check.loaded("ring0030 ;\n\n scanner 029\n;station 5room 020switch 9 time"
+            + " 00099 exit 00000 ; window 0;")),
             "ring 30;scanner 29;station 5 room 20 switch 9 time 99 exit 0;window 0;passes 3;");
+        for (int open : new int[] {0, 9, 10, 11, 99, 100, 101, 999, 1000, 9999, 10000, 10001, 20000, 54321, 90000, 99998}) {
+            String text = "ring 10;chute 0 room 1 switch 1;flight 1 chute 0 open " + open + " close " + (open + 1) + ";window 1;passes 3;";
+            c.due("the number " + open, Check.setupOf(Check.loaded(text)), text);
+        }
         c.says("Promise 50", "Returns the number of bytes.");
         c.due("mixed", Check.loaded(mixed).setupLength(), mixed.length());
         c.due("the longest text is longer than a tape", longest().setupLength(), 918);

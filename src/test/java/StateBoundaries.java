@@ -361,7 +361,8 @@ final class StateBoundaries {
 
     private void properLabels() {
         c.says("Promise 29", "Returns the proper label of a bag at the present tick.");
-        BaggageHandling x = Check.loaded("ring 10;inlet 0;chute 5 room 1 switch 1;flight 1 chute 0 open 3 close 5;flight 999 chute 0 open 3 close 7;");
+        BaggageHandling x = Check.loaded("ring 10;inlet 0;chute 5 room 1 switch 1;flight 1 chute 0 open 3 close 5;"
+            + "flight 999 chute 0 open 3 close 7;");
         x.checkIn(0, 1000, 0, 999999, 0, 0);
         x.checkIn(0, 0, 0, 0, 0, 0);
         x.run(4);
@@ -440,7 +441,8 @@ final class StateBoundaries {
     }
 
     private static BaggageHandling screens() {
-        return Scene.withBags("ring 40;inlet 0;scanner 1;screen 5 room 20 switch 1 times 9 9 9 exit 3;screen 6 room 1 switch 1 times 5 9 9 exit 30;", 22, 7001);
+        return Scene.withBags("ring 40;inlet 0;scanner 1;screen 5 room 20 switch 1 times 9 9 9 exit 3;screen 6 room 1 switch 1 times"
+            + " 5 9 9 exit 30;", 22, 7001);
     }
 
     private void screenSizes() {
@@ -453,7 +455,8 @@ final class StateBoundaries {
         c.due("nine", x.screenSize(0), 9);
         x.run(1);
         c.due("one has left, one has come", x.screenSize(0), 9);
-        BaggageHandling full = Scene.withBags("ring 40;inlet 0;scanner 1;screen 5 room 20 switch 1 times 99 9 9 exit 3;screen 6 room 1 switch 1 times 99 9 9 exit 30;", 22, 7001);
+        BaggageHandling full = Scene.withBags("ring 40;inlet 0;scanner 1;screen 5 room 20 switch 1 times 99 9 9 exit 3;"
+            + "screen 6 room 1 switch 1 times 99 9 9 exit 30;", 22, 7001);
         c.says("Promise 32", "Returns the number;");
         full.run(28);
         c.due("as many as it has room for", full.screenSize(0), 20);
@@ -467,7 +470,8 @@ final class StateBoundaries {
     }
 
     private void screenLevels() {
-        BaggageHandling x = Check.loaded("ring 40;inlet 0;scanner 1;screen 5 room 1 switch 1 times 2 2 2 exit 3;screen 6 room 1 switch 1 times 1 1 1 exit 30;");
+        BaggageHandling x = Check.loaded("ring 40;inlet 0;scanner 1;screen 5 room 1 switch 1 times 2 2 2 exit 3;"
+            + "screen 6 room 1 switch 1 times 1 1 1 exit 30;");
         x.checkIn(0, 7001, 15, 0, 0, 3);
         x.checkIn(0, 7001, 15, 0, 0, 3);
         c.says("Promise 33", "Returns 1 to 3;");
@@ -494,7 +498,8 @@ final class StateBoundaries {
 
     private void storeSizes() {
         c.says("Promise 34", "Returns the number of bags in a store.");
-        BaggageHandling x = outlets("store 5 room 20 switch 1 exit 35;store 6 room 1 switch 1 exit 36;", "chute 10 room 1 switch 1;chute 11 room 1 switch 1;", 22, 8001);
+        BaggageHandling x = outlets("store 5 room 20 switch 1 exit 35;store 6 room 1 switch 1 exit 36;", "chute 10 room 1 switch 1;"
+            + "chute 11 room 1 switch 1;", 22, 8001);
         c.due("none", x.storeSize(0), 0);
         x.run(6);
         c.due("one", x.storeSize(0), 1);
@@ -517,7 +522,8 @@ final class StateBoundaries {
 
     private void stationSizes() {
         c.says("Promise 35", "Returns the number of bags in the queue of a station.");
-        BaggageHandling x = Scene.withBags("ring 40;inlet 0;scanner 1;station 5 room 20 switch 1 time 40 exit 3;station 6 room 1 switch 1 time 99 exit 30;", 22, 0);
+        BaggageHandling x = Scene.withBags("ring 40;inlet 0;scanner 1;station 5 room 20 switch 1 time 40 exit 3;"
+            + "station 6 room 1 switch 1 time 99 exit 30;", 22, 0);
         c.due("none", x.stationSize(0), 0);
         x.run(6);
         c.due("one", x.stationSize(0), 1);
@@ -537,7 +543,8 @@ final class StateBoundaries {
 
     private void exitSizes() {
         c.says("Promise 36", "Returns the number of bags that wait at the exit at a position.");
-        BaggageHandling x = Check.loaded("ring 20;inlet 17;inlet 9;scanner 18;screen 19 room 9 switch 1 times 1 1 1 exit 10;store 1 room 1 switch 1 exit 0;"
+        BaggageHandling x = Check.loaded("ring 20;inlet 17;inlet 9;scanner 18;screen 19 room 9 switch 1 times 1 1 1 exit 10;"
+            + "store 1 room 1 switch 1 exit 0;"
             + "station 2 room 1 switch 1 time 1 exit 3;chute 4 room 1 switch 1;");
         c.due("none", x.exitSize(10), 0);
         for (int i = 0; i < 3; i++) {
@@ -570,7 +577,8 @@ final class StateBoundaries {
     private void readyTicks() {
         c.says("Promise 37", "Returns the first tick in which the diverter of an outlet can take again.");
         BaggageHandling x = Scene.withBags("ring 20;inlet 15;scanner 16;screen 0 room 9 switch 9 times 99 99 99 exit 1;"
-            + "chute 19 room 9 switch 1;store 2 room 9 switch 1 exit 3;station 4 room 9 switch 1 time 1 exit 5;", 11, 7001);
+            + "chute 19 room 9 switch 1;store 2 room 9 switch 1 exit 3;station 4 room 9 switch 1 time 1 exit 5;"
+            + "flight 7 chute 0 open 0 close 99;", 11, 7001);
         x.run(6);
         c.due("taken in tick 6", x.readyAt(0), 15);
         x.run(8);
@@ -681,7 +689,8 @@ final class StateBoundaries {
     }
 
     private void eachCount() {
-        c.says("Promise 40", "`what`: 0 losses, 1 ghosts, 2 conflicts, 3 misses, 4 empty divertings, 5 bags set aside, 6 bags seized, 7 bags that came into chutes");
+        c.says("Promise 40", "`what`: 0 losses, 1 ghosts, 2 conflicts, 3 misses, 4 empty divertings, 5 bags set aside, 6 bags seized,"
+            + " 7 bags that came into chutes");
         BaggageHandling loss = Scene.withBags("ring 20;inlet 0;scanner 1;window 0;", 1, 7001);
         loss.run(3);
         loss.slip(2);
@@ -762,6 +771,10 @@ final class StateBoundaries {
         BaggageHandling y = strayed();
         y.undo();
         c.due("undone", y.misrouted(1), 0);
+        BaggageHandling again = strayed();
+        Check.put(again, Check.setupOf(again));
+        again.load();
+        c.due("after a load", again.misrouted(1), 0);
         c.says("Promise 41", "`chute`: a chute");
         c.due("the first chute", x.misrouted(0), 0);
         c.due("the last chute", x.misrouted(1), 1);
@@ -772,7 +785,8 @@ final class StateBoundaries {
     }
 
     private void delivered() {
-        c.says("Promise 42", "Returns the number of bags in chutes or loaded whose proper label belonged to a flight when they came into the chute of that flight.");
+        c.says("Promise 42", "Returns the number of bags in chutes or loaded whose proper label belonged to a flight when"
+            + " they came into the chute of that flight.");
         BaggageHandling x = Check.plantAfter(14);
         c.due("not yet", x.delivered(0), 0);
         x.run(1);
@@ -805,7 +819,8 @@ final class StateBoundaries {
         c.due("it is in chute 0", z.chuteSize(0), 1);
         c.due("for neither", z.delivered(0) + z.delivered(1), 0);
         c.says("Promise 42", "Returns the number;");
-        BaggageHandling two = Scene.withBags(Check.PLANT.replace("switch 2 times 2 3 4", "switch 1 times 1 1 1").replace("room 2 switch 3", "room 2 switch 1"), 3, 7001);
+        BaggageHandling two = Scene.withBags(Check.PLANT.replace("switch 2 times 2 3 4", "switch 1 times 1 1 1").replace("room 2 switch"
+            + " 3", "room 2 switch 1"), 3, 7001);
         c.due("none", two.delivered(0), 0);
         two.run(15);
         c.due("two", two.delivered(0), 2);
@@ -820,5 +835,9 @@ final class StateBoundaries {
             c.due("delivered(" + bad + ")", x.delivered(bad), I);
         }
         c.due("delivered(0) without flights", new BaggageHandling().delivered(0), I);
+        c.says("Promise 42", "Returns the number of bags in chutes or loaded");
+        Check.put(x, Check.PLANT);
+        x.load();
+        c.due("after a load", x.delivered(0), 0);
     }
 }

@@ -12,7 +12,8 @@ final class TextBoundaries {
         + "flight 24 chute 0 open 25 close 26 ; window 2 ; passes 4 ;";
     private static final String[] KEYWORDS = {"ring", "inlet", "scanner", "chute", "room", "switch", "screen", "times", "exit", "store",
         "station", "time", "flight", "open", "close", "window", "passes"};
-    private static final String[] DEVICES = {"inlet 0;", "scanner 0;", "chute 0 room 1 switch 1;", "screen 0 room 1 switch 1 times 1 1 1 exit 1;",
+    private static final String[] DEVICES = {"inlet 0;", "scanner 0;", "chute 0 room 1 switch 1;", "screen 0 room"
+        + " 1 switch 1 times 1 1 1 exit 1;",
         "store 0 room 1 switch 1 exit 1;", "station 0 room 1 switch 1 time 1 exit 1;"};
     private final Check c;
 
@@ -171,7 +172,8 @@ final class TextBoundaries {
         load("a sign", "ring +10;", 5);
         load("a point", "ring 10.0;", 7);
         BaggageHandling x = Check.loaded("ring 60;inlet 12;inlet 34;inlet 56;scanner 7;scanner 8;scanner 9;");
-        c.due("the digits mean what they should", Check.setupOf(x), "ring 60;inlet 12;inlet 34;inlet 56;scanner 7;scanner 8;scanner 9;window 1;passes 3;");
+        c.due("the digits mean what they should", Check.setupOf(x), "ring 60;inlet 12;inlet 34;inlet 56;scanner 7;scanner 8;scanner 9;"
+            + "window 1;passes 3;");
     }
 
     private void leadingZeros() {
@@ -297,7 +299,8 @@ final class TextBoundaries {
     }
 
     private void values() {
-        c.says("Section 10", "The first INT of a device is its position, \"room\" its capacity (1 to 20), \"switch\" its switching time (1 to 9),"
+        c.says("Section 10", "The first INT of a device is its position, \"room\" its capacity (1 to 20), \"switch\" its switching"
+            + " time (1 to 9),"
             + " \"times\" and \"time\" are working times (1 to 99), and \"exit\" is the position of the exit.");
         for (String device : DEVICES) {
             String text = "ring 10;" + device;
@@ -355,7 +358,8 @@ final class TextBoundaries {
     }
 
     private void flightTicks() {
-        c.says("Section 10", "A flight has its number, the number of its chute, its opening tick (0 to 99998) and its closing tick (opening tick + 1 to 99999).");
+        c.says("Section 10", "A flight has its number, the number of its chute, its opening tick (0 to 99998) and its closing"
+            + " tick (opening tick + 1 to 99999).");
         String chute = "ring 10;chute 0 room 1 switch 1;";
         range(chute + "flight ", 1, 999, " chute 0 open 0 close 1;");
         range(chute + "flight 1 chute ", 0, 0, " open 0 close 1;");
@@ -482,7 +486,8 @@ final class TextBoundaries {
     }
 
     private void tooMany() {
-        c.says("Section 10", "the keyword of a 4th inlet, a 4th scanner, a 7th chute, a 3rd screen, a 3rd store, a 3rd station or an 11th flight.");
+        c.says("Section 10", "the keyword of a 4th inlet, a 4th scanner, a 7th chute, a 3rd screen, a 3rd store, a 3rd station"
+            + " or an 11th flight.");
         int[] most = {3, 3, 6, 2, 2, 2};
         StringBuilder all = new StringBuilder("ring 60;");
         int free = 0;
