@@ -14,57 +14,97 @@ import java.util.regex.Pattern;
 /** The public face of the class, the rules of the language that can be seen in the source, and the room it takes. */
 public final class FaceTest {
     private static final Check CHECK = new Check();
-    private static final String FACE = "append(IIIII)I bagAt(I)I bagPlace(I)I bagState(I)I bags()I bestInlet(II)I "
-        + "checkIn(IIIIII)I chuteSize(I)I count(I)I delivered(I)I deliveredAt(I)I destination(I)I deviceAt(I)I devices(I)I "
-        + "errorPosition()I exitSize(I)I flightNumber(I)I flightState(I)I flights()I forecastDelivered(I)I forecastState(II)I "
-        + "isCleared(I)Z latestDelay(II)I load()I loadChute(I)I mapByte(I)I mapLength()I misrouted(I)I onRing()I passes(I)I "
-        + "positions()I properLabel(I)I readyAt(I)I recordLabel(I)I run(I)I screenLevel(I)I screenSize(I)I setHead(IZ)Z "
-        + "setupByte(I)I setupLength()I slip(I)Z stationSize(I)I storeSize(I)I takeOff(I)I tapeLength()I tick()I "
-        + "ticksToChute(II)I truncate(I)I undo()I untracked()I waiting(I)I";
+    private static final Path DOCUMENT = Path.of("../shared/DOC.md");
+    private static final Path SOURCE = Path.of("src/main/java/BaggageHandling.java");
 
     public static void main(String[] args) throws IOException {
-        face();
+        CHECK.promise(1);
+        List<String> due = faceOfDocument();
+        CHECK.due("the face that the document shows", due.size() > 50, true);
+        CHECK.due("the face", String.join("\n", face()), String.join("\n", due));
+        names(due);
+        promises(due);
+        constants();
+        members();
         source();
         room();
         CHECK.end();
     }
 
-    private static String letter(Class<?> type) {
-        return type == int.class ? "I" : type == boolean.class ? "Z" : type.getName();
-    }
-
-    private static void face() {
-        CHECK.promise(1);
+    /** The lines of the document's face, as "int append(int, int, int, int, int)", sorted. */
+    private static List<String> faceOfDocument() throws IOException {
         List<String> found = new ArrayList<>();
-        List<String> hidden = new ArrayList<>();
-        for (Method m : BaggageHandling.class.getDeclaredMethods()) {
-            StringBuilder s = new StringBuilder(m.getName() + "(");
-            for (Class<?> type : m.getParameterTypes()) {
-                s.append(letter(type));
-            }
-            s.append(")" + letter(m.getReturnType()));
-            if (Modifier.isPublic(m.getModifiers())) {
-                found.add(s.toString());
-            } else {
-                hidden.add(m.getName());
-                CHECK.due("private " + m.getName(), Modifier.isPrivate(m.getModifiers()), true);
+        for (String line : Files.readAllLines(DOCUMENT)) {
+            if (line.matches("    public (int|boolean) \\w+\\(.*\\);")) {
+                found.add(line.trim().replaceAll("public |;", "").replaceAll("(int|boolean) \\w+([,)])", "$1$2"));
             }
         }
         Collections.sort(found);
-        CHECK.due("the methods", String.join(" ", found), FACE);
-        for (String face : found) {
-            CHECK.due("a hidden " + face, hidden.contains(face.substring(0, face.indexOf('('))), false);
+        return found;
+    }
+
+    /** The public methods of the class, in the same form. */
+    private static List<String> face() {
+        List<String> found = new ArrayList<>();
+        for (Method m : BaggageHandling.class.getDeclaredMethods()) {
+            if (Modifier.isPublic(m.getModifiers())) {
+                List<String> types = new ArrayList<>();
+                for (Class<?> type : m.getParameterTypes()) {
+                    types.add(type.getName());
+                }
+                found.add(m.getReturnType().getName() + " " + m.getName() + "(" + String.join(", ", types) + ")");
+            }
         }
+        Collections.sort(found);
+        return found;
+    }
+
+    /** Rule 1: no hidden method bears the name of a public one. */
+    private static void names(List<String> due) {
+        for (Method m : BaggageHandling.class.getDeclaredMethods()) {
+            if (!Modifier.isPublic(m.getModifiers())) {
+                CHECK.due("private " + m.getName(), Modifier.isPrivate(m.getModifiers()), true);
+                for (String line : due) {
+                    CHECK.due("a hidden " + line, line.contains(" " + m.getName() + "("), false);
+                }
+            }
+        }
+    }
+
+    /** The source has the parameters of the document, by their names, in the face and in the promises. */
+    private static void promises(List<String> due) throws IOException {
+        String source = Files.readString(SOURCE);
+        int found = 0;
+        for (String line : Files.readAllLines(DOCUMENT)) {
+            if (line.matches("`(int|boolean) \\w+\\(.*\\)`")) {
+                found++;
+                CHECK.due("the source has " + line, source.contains("    public " + line.replace("`", "") + " {\n"), true);
+            } else if (line.matches("    public .*\\);")) {
+                CHECK.due("the source has " + line, source.contains(line.replace(";", " {\n")), true);
+            } else if (line.matches("    public .* = .*;")) {
+                CHECK.due("the source has " + line, source.contains(line + "\n"), true);
+            }
+        }
+        CHECK.due("promises with a signature", found, due.size());
+    }
+
+    private static void constants() {
+        CHECK.due("INVALID", BaggageHandling.INVALID, -1);
+        CHECK.due("NOT_FOUND", BaggageHandling.NOT_FOUND, -2);
         for (Field f : BaggageHandling.class.getDeclaredFields()) {
             boolean constant = f.getName().equals("INVALID") || f.getName().equals("NOT_FOUND");
             CHECK.due("public " + f.getName(), Modifier.isPublic(f.getModifiers()), constant);
             CHECK.due("private " + f.getName(), Modifier.isPrivate(f.getModifiers()), !constant);
             CHECK.due("final static " + f.getName(), Modifier.isStatic(f.getModifiers()) && !Modifier.isFinal(f.getModifiers()), false);
         }
+    }
+
+    private static void members() {
         CHECK.due("final class", Modifier.isFinal(BaggageHandling.class.getModifiers()), true);
         Constructor<?>[] made = BaggageHandling.class.getDeclaredConstructors();
         CHECK.due("constructors", made.length, 1);
         CHECK.due("public constructor", Modifier.isPublic(made[0].getModifiers()), true);
+        CHECK.due("parameters of the constructor", made[0].getParameterCount(), 0);
         for (Class<?> inside : BaggageHandling.class.getDeclaredClasses()) {
             CHECK.due("static " + inside, Modifier.isStatic(inside.getModifiers()), true);
             CHECK.due("fields of " + inside, inside.getDeclaredFields().length <= 20, true);
@@ -73,7 +113,7 @@ public final class FaceTest {
     }
 
     private static void source() throws IOException {
-        String source = Files.readString(Path.of("src/main/java/BaggageHandling.java"))
+        String source = Files.readString(SOURCE)
             .replaceAll("(?s)/\\*.*?\\*/", "").replaceAll("//.*", "").replaceAll("\"[^\"]*\"", "\"\"");
         String[] forbidden = {"\\bthrow\\b", "\\btry\\b", "\\bcatch\\b", "\\bsynchronized\\b", "\\bassert\\b", "->", "::",
             "\\bpackage\\b", "Exact\\b", "\"\\s*\\+", "\\+\\s*\"", "\\bSystem\\.(?!arraycopy)", "\\bhashCode\\b", "\\btoString\\b",

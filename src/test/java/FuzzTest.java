@@ -6,9 +6,12 @@ import java.util.Random;
 
 /** Random runs of calls, with the same seeds each time, answered by BaggageHandling and by Reference. */
 public final class FuzzTest {
-    private static final int RUNS = Integer.getInteger("runs", 400);
+    private static final int RUNS = Integer.getInteger("runs", 300);
     private static final int FIRST_SEED = Integer.getInteger("seed", 1);
     private static final int CALLS = 420;
+    /** Arguments that sums, negations and shifts could bring back into a range. */
+    private static final int[] FAR = {Integer.MIN_VALUE, Integer.MIN_VALUE + 1, Integer.MIN_VALUE + 59, -65536, -1000, 1000, 65536,
+        Integer.MAX_VALUE - 299, Integer.MAX_VALUE - 1, Integer.MAX_VALUE};
     private static int wrong = 0;
 
     private final Random random;
@@ -34,7 +37,7 @@ public final class FuzzTest {
             }
         }
         for (int k = 0; k < 8; k++) {
-            if (RUNS >= 400 && answered[k] == 0) {
+            if (RUNS >= 300 && answered[k] == 0) {
                 System.out.println("the runs never reach count " + k);
                 wrong++;
             }
@@ -132,42 +135,47 @@ public final class FuzzTest {
         return random.nextInt(20) == 0 ? "\n  " : " ";
     }
 
+    /** Half of the setups are lively: they have a device of each sort and flights that are open for long. */
     private String setupText() {
+        boolean lively = random.nextBoolean();
         int n = 10 + (random.nextBoolean() ? random.nextInt(15) : random.nextInt(51));
         List<Integer> free = new ArrayList<>();
         for (int p = 0; p < n; p++) {
             free.add(p);
         }
         StringBuilder s = new StringBuilder("ring" + gap() + n + ";");
-        List<Integer> sorts = new ArrayList<>();
         int[] most = {0, 3, 3, 6, 2, 2, 2};
         int[] have = new int[7];
         for (int i = 0; i < 22; i++) {
-            int sort = 1 + random.nextInt(6);
+            int sort = lively && i < 6 ? 1 + i : 1 + random.nextInt(6);
             int limit = random.nextInt(200) == 0 ? most[sort] + 1 : most[sort];
             int needed = sort >= 4 ? 2 : 1;
             if (have[sort] < limit && free.size() >= needed + 1) {
                 have[sort]++;
-                sorts.add(sort);
                 device(s, sort, free);
             }
         }
-        int count = random.nextInt(11);
-        for (int f = 0; f < count && have[3] > 0; f++) {
-            int open = random.nextInt(3) == 0 ? 0 : random.nextInt(150);
-            int close = open + 1 + random.nextInt(200);
-            int number = random.nextInt(30) == 0 ? 1 + random.nextInt(999) : 3 * f + 1 + random.nextInt(3);
-            int chute = random.nextInt(100) == 0 ? have[3] : random.nextInt(have[3]);
-            s.append("flight" + gap() + number + gap() + "chute" + gap() + chute
-                + gap() + "open" + gap() + open + gap() + "close" + gap() + close + gap() + ";");
-        }
+        flightLines(s, have[3], lively);
         if (random.nextBoolean()) {
             s.append("window " + random.nextInt(4) + ";");
         }
         if (random.nextBoolean()) {
-            s.append("passes " + (1 + random.nextInt(4)) + ";");
+            s.append("passes " + (1 + random.nextInt(lively ? 9 : 4)) + ";");
         }
         return s.toString();
+    }
+
+    private void flightLines(StringBuilder s, int chutes, boolean lively) {
+        int count = lively ? 3 + random.nextInt(8) : random.nextInt(11);
+        int span = lively ? 1200 : 150;
+        for (int f = 0; f < count && chutes > 0; f++) {
+            int open = random.nextInt(3) == 0 ? 0 : random.nextInt(span);
+            int close = open + 1 + random.nextInt(span + 50);
+            int number = random.nextInt(30) == 0 ? 1 + random.nextInt(999) : 3 * f + 1 + random.nextInt(3);
+            int chute = random.nextInt(100) == 0 ? chutes : random.nextInt(chutes);
+            s.append("flight" + gap() + number + gap() + "chute" + gap() + chute
+                + gap() + "open" + gap() + open + gap() + "close" + gap() + close + gap() + ";");
+        }
     }
 
     private int draw(List<Integer> free) {
@@ -197,12 +205,19 @@ public final class FuzzTest {
 
     // ---- calls
 
+    /** An index, mostly one below the bound; now and then one beside the range, or far away from it. */
     private int small(int bound) {
+        if (random.nextInt(60) == 0) {
+            return FAR[random.nextInt(FAR.length)];
+        }
         return random.nextInt(12) == 0 ? random.nextInt(4) - 2 + (random.nextBoolean() ? bound : 0) : random.nextInt(Math.max(1, bound));
     }
 
     private int label() {
         int kind = random.nextInt(12);
+        if (random.nextInt(60) == 0) {
+            return FAR[random.nextInt(FAR.length)];
+        }
         if (kind == 0) {
             return random.nextInt(1000001);
         }
@@ -216,11 +231,18 @@ public final class FuzzTest {
     }
 
     private int mask() {
-        return random.nextInt(50) == 0 ? random.nextInt(20) - 2 : random.nextInt(3) == 0 ? random.nextInt(16) : 15;
+        return random.nextInt(50) == 0 ? small(18) : random.nextInt(3) == 0 ? random.nextInt(16) : 15;
     }
 
     private int threat() {
-        return random.nextInt(40) == 0 ? random.nextInt(8) - 2 : random.nextInt(4) * random.nextInt(2);
+        return random.nextInt(40) == 0 ? small(6) : random.nextInt(4) * random.nextInt(2);
+    }
+
+    private int ticks() {
+        if (random.nextInt(30) == 0) {
+            return random.nextBoolean() ? small(300) : random.nextInt(400) - 40;
+        }
+        return 1 + random.nextInt(random.nextInt(4) == 0 ? 25 : 4);
     }
 
     private void randomCall() throws Exception {
@@ -230,7 +252,7 @@ public final class FuzzTest {
             call("checkIn", small(Math.max(1, real.devices(1))), label(), mask(),
                 random.nextInt(3) > 0 ? 0 : label(), mask(), threat());
         } else if (dice < 56) {
-            call("run", random.nextInt(30) == 0 ? random.nextInt(400) - 40 : 1 + random.nextInt(random.nextInt(4) == 0 ? 25 : 4));
+            call("run", ticks());
         } else if (dice < 63) {
             call("slip", somewhere(n));
         } else if (dice < 65) {
