@@ -7,7 +7,6 @@ import java.nio.file.Path;
 import java.util.List;
 import java.util.regex.Matcher;
 import java.util.regex.Pattern;
-import javax.tools.ToolProvider;
 
 /** The examples of README.md, taken from there: they compile, and each call answers what the comment behind it says. */
 public final class ReadmeTest {
@@ -37,8 +36,8 @@ public final class ReadmeTest {
     private static void play(List<String> lines, Path directory) throws Exception {
         Path file = directory.resolve("ReadmeExample.java");
         Files.writeString(file, program(lines));
-        int code = ToolProvider.getSystemJavaCompiler().run(null, null, null, "-cp", System.getProperty("java.class.path"),
-            "-d", directory.toString(), file.toString());
+        int code = new ProcessBuilder("javac", "-cp", System.getProperty("java.class.path"), "-d", directory.toString(),
+            file.toString()).inheritIO().start().waitFor();
         CHECK.due("compiling the examples", code, 0);
         if (code == 0) {
             try (URLClassLoader loader = new URLClassLoader(new URL[] {directory.toUri().toURL()})) {
